@@ -163,7 +163,8 @@ public final class ScoreNumbers {
             return NONE;
         }
         long said = found.at(place);
-        return index < Said.length(said) ? Said.character(said, index) : NONE;
+        int length = Said.length(said);
+        return index < length ? Said.character(said, length - 1 - index) : NONE;
     }
 
     public int styled(int number, int style) {
@@ -360,14 +361,14 @@ public final class ScoreNumbers {
 
     private int meant(long said) {
         ear.listen(true, true, true);
-        return ear.hear(said, Said.length(said));
+        return ear.hear(said, TOP_ATTENTION);
     }
 
     /** What a hearer understands, 0 if nothing. */
     private int heard(int hearer, long said) {
         int[] row = now.hearers[hearer];
         ear.listen(row[KNOWN] == 1, row[KNOWN + 1] == 1, row[KNOWN + 2] == 1);
-        return ear.hear(said, Math.min(row[ATTENTION], Said.length(said)));
+        return ear.hear(said, row[ATTENTION]);
     }
 
     private int reached(int number, long said) {
@@ -459,14 +460,14 @@ public final class ScoreNumbers {
             return length;
         }
 
-        static int character(long said, int index) {
-            int behind = length(said) - 1 - index;
-            return behind < 0 || behind >= MOST ? 0 : (int) (said >>> BITS * behind) & 127;
+        /** The character that has so many others behind it. */
+        static int character(long said, int behind) {
+            return behind >= 0 && behind < MOST ? (int) (said >>> BITS * behind) & 127 : 0;
         }
 
-        static boolean has(long said, char character) {
+        static boolean has(long said, char wanted) {
             for (int behind = 0; behind < MOST; behind++) {
-                if (((int) (said >>> BITS * behind) & 127) == character) {
+                if (character(said, behind) == wanted) {
                     return true;
                 }
             }
@@ -486,11 +487,11 @@ public final class ScoreNumbers {
         void find(int number) {
             many = 0;
             addSmalls(Said.NOTHING, number);
-            for (int great = 400; great <= 7600; great += 200) {
-                int rest = number - great;
-                if (rest >= 0 && rest <= TOP_SMALL) {
-                    addGreat(great, rest);
-                }
+            // Only a great that leaves 0 to 399 can help.
+            int first = Math.max(400, (number - 200) / 200 * 200);
+            int last = Math.min(7600, number);
+            for (int great = first; great <= last; great += 200) {
+                addGreat(great, number - great);
             }
         }
 
@@ -545,7 +546,10 @@ public final class ScoreNumbers {
             if (small <= 19) {
                 add(Said.then(front, unit(small)));
             }
-            for (int base = 20; base <= 380; base += 10) {
+            // Only a base that is at most 19 away can help.
+            int first = Math.max(20, (small - 10) / 10 * 10);
+            int last = Math.min(380, small + 19);
+            for (int base = first; base <= last; base += 10) {
                 addWithBase(front, base, small - base);
             }
         }
@@ -636,10 +640,11 @@ public final class ScoreNumbers {
             unit = 0;
         }
 
-        /** What is understood of the first characters, 0 if nothing. */
-        int hear(long said, int many) {
-            for (int i = 0; i < many; i++) {
-                if (!take(Said.character(said, i))) {
+        /** What is understood of the first characters, as many as the attention, 0 if nothing. */
+        int hear(long said, int attention) {
+            int length = Said.length(said);
+            for (int i = 0; i < length && i < attention; i++) {
+                if (!take(Said.character(said, length - 1 - i))) {
                     return 0;
                 }
             }

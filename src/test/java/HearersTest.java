@@ -80,6 +80,16 @@ public final class HearersTest {
             Check.due("hearer(0, 0)", x.hearer(0, 0), known);
             Check.due("hearer(0, 3) without doubt", x.hearer(0, 3), 0);
             Check.due("hearer(0, 4) still in doubt", x.hearer(0, 4), 1);
+            Check.due("learn(0, 2): no doubt counts", x.learn(0, 2), 1 + known);
+        }
+        ScoreNumbers x = new ScoreNumbers();
+        x.unlearn(0, 0);
+        x.tell(0, 30, 0);
+        Check.due("hearer(0, 3) after an error", x.hearer(0, 3), 1);
+        Check.due("learn(0, 1): the doubt of H does not count", x.learn(0, 1), 2);
+        Check.due("unlearn(0, 2): the doubt of H does not count", x.unlearn(0, 2), 1);
+        for (int word = 0; word < 3; word++) {
+            Check.due("unlearn(1, " + word + ")", x.unlearn(1, word), 2 - word);
         }
     }
 

@@ -9,7 +9,8 @@ public final class HistoryTest {
         atMostFour();
         actionsThatChangeNothing();
         textStays();
-        undoneLogAndDoubts();
+        undoneLog();
+        undoneLogsOfEveryLength();
         goingOnAfterUndo();
         Check.end();
     }
@@ -90,7 +91,7 @@ public final class HistoryTest {
         Check.due("meaning()", x.meaning(), 41);
     }
 
-    private static void undoneLogAndDoubts() {
+    private static void undoneLog() {
         ScoreNumbers x = new ScoreNumbers();
         for (int number = 1; number <= 12; number++) {
             x.tell(0, number, 0);
@@ -107,6 +108,23 @@ public final class HistoryTest {
         Check.due("log(0, 1)", x.log(0, 1), 77);
         Check.due("log(1, 1)", x.log(1, 1), 9);
         Check.due("log(9, 1)", x.log(9, 1), 1);
+    }
+
+    private static void undoneLogsOfEveryLength() {
+        for (int many = 4; many <= 30; many++) {
+            ScoreNumbers x = new ScoreNumbers();
+            for (int number = 1; number <= many; number++) {
+                x.tell(0, number, 0);
+            }
+            for (int undone = 1; undone <= 4; undone++) {
+                Check.due("undo()", x.undo(), 4 - undone);
+                for (int ago = 0; ago <= 10; ago++) {
+                    int number = many - undone - ago;
+                    Check.due("log(" + ago + ", 1) after " + many + " less " + undone,
+                            x.log(ago, 1), ago < 10 && number >= 1 ? number : -5);
+                }
+            }
+        }
     }
 
     private static void goingOnAfterUndo() {

@@ -8,6 +8,7 @@ public final class TellingTest {
         styles();
         learningByErrors();
         doubtsOfTheWholeText();
+        eachWordIsLearntForItself();
         patienceIsLookedAtWhenADoubtGrows();
         texts();
         log();
@@ -102,6 +103,34 @@ public final class TellingTest {
         Check.write(x, "S");
         Check.due("tellText(0) of S", x.tellText(0), 1);
         Check.due("hearer(0, 8)", x.hearer(0, 8), 2);
+    }
+
+    private static void eachWordIsLearntForItself() {
+        int[] numbers = {30, 18, 400};
+        int[] styles = {0, 2, 0};
+        for (int word = 0; word < 3; word++) {
+            ScoreNumbers x = new ScoreNumbers();
+            x.unlearn(0, word);
+            for (int telling = 0; telling < 3; telling++) {
+                Check.due("hearer(0, " + word + ")", x.hearer(0, word), telling < 2 ? 0 : 1);
+                Check.due("hearer(0, 3 + " + word + ")", x.hearer(0, 3 + word), telling % 2);
+                Check.due("tell(0, " + numbers[word] + ", " + styles[word] + ")",
+                        x.tell(0, numbers[word], styles[word]), telling < 2 ? 0 : 1);
+            }
+            Check.due("sum(2)", x.sum(2), 18);
+            Check.due("sum(3)", x.sum(3), 0);
+        }
+        ScoreNumbers x = new ScoreNumbers();
+        for (int word = 0; word < 3; word++) {
+            x.unlearn(3, word);
+        }
+        Check.write(x, "HbG&a-HbS");
+        Check.due("tellText(3)", x.tellText(3), 0);
+        Check.due("sum(3)", x.sum(3), 3);
+        Check.due("tellText(3)", x.tellText(3), 0);
+        Check.due("sum(2): all three at once", x.sum(2), 18);
+        Check.due("sum(3)", x.sum(3), 0);
+        Check.due("tellText(3)", x.tellText(3), 1);
     }
 
     private static void patienceIsLookedAtWhenADoubtGrows() {

@@ -137,6 +137,11 @@ public final class UnderstandingTest {
         }
         x.learn(5, 0);
         Check.due("commonWay(30): without H", x.commonWay(30), 1);
+        for (int h = 0; h < 5; h++) {
+            x.attend(h, 1);
+        }
+        x.unlearn(5, 0);
+        Check.due("commonWay(30): one alone", x.commonWay(30), 1);
         Check.due("commonWay(600): nobody", x.commonWay(600), 0);
     }
 

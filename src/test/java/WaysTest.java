@@ -7,6 +7,7 @@ public final class WaysTest {
 
     public static void main(String[] args) {
         wrongValues();
+        eachCallForItself();
         someWays();
         someStyles();
         allNumbers();
@@ -36,6 +37,22 @@ public final class WaysTest {
         Check.due("wayAt(1, 0, 1)", x.wayAt(1, 0, 1), -5);
         Check.due("wayAt(1, 1, 3)", x.wayAt(1, 1, 3), -5);
         Check.due("wayAt(1, MAX, MAX)", x.wayAt(1, Integer.MAX_VALUE, Integer.MAX_VALUE), -5);
+    }
+
+    /** No call leans on the number of the call before. */
+    private static void eachCallForItself() {
+        Check.due("wayLength(700, 0) at once", new ScoreNumbers().wayLength(700, 0), 4);
+        Check.due("wayAt(50, 0, 1) at once", new ScoreNumbers().wayAt(50, 0, 1), 'c');
+        Check.due("styled(50, 2) at once", new ScoreNumbers().styled(50, 2), 2);
+        ScoreNumbers x = new ScoreNumbers();
+        Check.due("ways(969)", x.ways(969), 8);
+        Check.due("wayLength(400, 1)", x.wayLength(400, 1), -5);
+        Check.due("ways(969)", x.ways(969), 8);
+        Check.due("wayAt(400, 1, 0)", x.wayAt(400, 1, 0), -5);
+        Check.due("ways(969)", x.ways(969), 8);
+        Check.due("understood(0, 400, 1)", x.understood(0, 400, 1), -5);
+        Check.due("ways(969)", x.ways(969), 8);
+        Check.due("styled(400, 1)", x.styled(400, 1), 0);
     }
 
     private static void ways(int number, String... due) {
