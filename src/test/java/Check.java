@@ -2,8 +2,14 @@
 final class Check {
     private static final int SHOWN = 40;
     private static int wrong = 0;
+    private static String sentence = "";
 
     private Check() {
+    }
+
+    /** The sentence of the document that the following calls test; it is told with each fault. */
+    static void sentence(String words) {
+        sentence = words + ": ";
     }
 
     static void due(String call, long got, long want) {
@@ -18,10 +24,16 @@ final class Check {
         }
     }
 
+    static void due(String call, String got, String want) {
+        if (!got.equals(want)) {
+            tell(call + " is " + got + ", due is " + want);
+        }
+    }
+
     static void tell(String fault) {
         wrong++;
         if (wrong <= SHOWN) {
-            System.out.println(fault);
+            System.out.println(sentence + fault);
         }
     }
 
@@ -51,5 +63,26 @@ final class Check {
             way.append((char) character);
         }
         return way.toString();
+    }
+
+    /** Everything that can be asked of the state and the text, in some 120 calls. */
+    static String seen(ScoreNumbers x) {
+        StringBuilder seen = new StringBuilder();
+        for (int hearer = 0; hearer < 6; hearer++) {
+            for (int what = 0; what <= 8; what++) {
+                seen.append(x.hearer(hearer, what)).append(' ');
+            }
+        }
+        for (int ago = 0; ago <= 10; ago++) {
+            for (int what = 0; what <= 4; what++) {
+                seen.append(x.log(ago, what)).append(' ');
+            }
+        }
+        for (int what = 0; what <= 3; what++) {
+            seen.append(x.sum(what)).append(' ');
+        }
+        seen.append(x.patience()).append(' ').append(x.share()).append(' ');
+        seen.append(x.fault()).append(' ').append(x.meaning()).append(' ').append(x.placeOfText());
+        return seen.toString();
     }
 }
