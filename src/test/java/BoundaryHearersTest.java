@@ -251,6 +251,11 @@ public final class BoundaryHearersTest {
         for (int word = 0; word < 3; word++) {
             Check.due("learn(0, " + word + ")", x.learn(0, word), word + 1);
         }
+        x.unlearn(1, 0);
+        x.tell(1, 30, 0);
+        Check.due("doubt of H", x.hearer(1, 3), 1);
+        Check.due("learn(1, 2): a doubt is no known word", x.learn(1, 2), 2);
+        Check.due("unlearn(1, 2): a doubt is no known word", x.unlearn(1, 2), 1);
         Check.sentence("learn: NO_SUCH if there is no such hearer or word");
         for (int hearer : NO_HEARERS) {
             Check.due("learn(" + hearer + ", 0)", x.learn(hearer, 0), -1);
