@@ -12,6 +12,7 @@ public final class TextTest {
         faults();
         meanings();
         places();
+        hearersDoNotMatter();
         allShortTexts(new ScoreNumbers(), "");
         allSpokenNumbers();
         Check.end();
@@ -148,6 +149,26 @@ public final class TextTest {
         place("j-cS", 2);
         place("G", 0);
         place("HbG&a-HbS", Oracle.place("HbG&a-HbS"));
+    }
+
+    /** What a text means is one thing, what the hearers understand of it another. */
+    private static void hearersDoNotMatter() {
+        ScoreNumbers x = new ScoreNumbers();
+        for (int hearer = 0; hearer < 6; hearer++) {
+            for (int word = 0; word < 3; word++) {
+                x.unlearn(hearer, word);
+            }
+            x.attend(hearer, 1);
+        }
+        for (String text : new String[] {"HbS", "j-cS", "bS+j", "G", "HbG&a-HbS", "HsG&s-HsS"}) {
+            Check.write(x, text);
+            Check.due("fault() of " + text + ", known to nobody", x.fault(), -5);
+            Check.due("meaning() of " + text + ", known to nobody", x.meaning(), Oracle.MEANINGS.get(text));
+            Check.due("placeOfText() of " + text + ", known to nobody", x.placeOfText(), Oracle.place(text));
+            Check.due("tellText(3) of " + text, x.tellText(3), 0);
+            Check.due("log(0, 1) of " + text, x.log(0, 1), Oracle.MEANINGS.get(text));
+            Check.due("meaning() of " + text + " after tellText", x.meaning(), Oracle.MEANINGS.get(text));
+        }
     }
 
     /** Every text of a few signs, up to five characters, as far as its beginning is no fault. */

@@ -8,6 +8,7 @@ public final class WaysTest {
     public static void main(String[] args) {
         wrongValues();
         eachCallForItself();
+        hearersAndTextDoNotMatter();
         someWays();
         someStyles();
         allNumbers();
@@ -55,8 +56,26 @@ public final class WaysTest {
         Check.due("styled(400, 1)", x.styled(400, 1), 0);
     }
 
-    private static void ways(int number, String... due) {
+    private static void hearersAndTextDoNotMatter() {
         ScoreNumbers x = new ScoreNumbers();
+        for (int hearer = 0; hearer < 6; hearer++) {
+            for (int word = 0; word < 3; word++) {
+                x.unlearn(hearer, word);
+            }
+            x.attend(hearer, 1);
+        }
+        Check.write(x, "HbG&");
+        ways(x, 50, "HcS", "bS+j", "j-cS");
+        ways(x, 600, "HbG", "G&jS", "G&HjS+j", "G&j-HkS");
+        styles(x, 600, 0, 0, 3, 1);
+        styles(x, 19, 0, 2, 1, 0);
+    }
+
+    private static void ways(int number, String... due) {
+        ways(new ScoreNumbers(), number, due);
+    }
+
+    private static void ways(ScoreNumbers x, int number, String... due) {
         Check.due("ways(" + number + ")", x.ways(number), due.length);
         for (int place = 0; place < due.length; place++) {
             String got = Check.way(x, number, place);
@@ -82,7 +101,10 @@ public final class WaysTest {
     }
 
     private static void styles(int number, int first, int half, int less, int plain) {
-        ScoreNumbers x = new ScoreNumbers();
+        styles(new ScoreNumbers(), number, first, half, less, plain);
+    }
+
+    private static void styles(ScoreNumbers x, int number, int first, int half, int less, int plain) {
         Check.due("styled(" + number + ", 0)", x.styled(number, 0), first);
         Check.due("styled(" + number + ", 1)", x.styled(number, 1), half);
         Check.due("styled(" + number + ", 2)", x.styled(number, 2), less);
